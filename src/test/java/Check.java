@@ -9,15 +9,29 @@ final class Check {
     static void due(String call, Object got, Object want) {
         looked++;
         if (!got.equals(want)) {
-            wrong++;
-            System.out.println(call + " answered " + got + ", due is " + want);
+            wrong(call + " answered " + got + ", due is " + want);
         }
+    }
+
+    static void wrong(String what) {
+        wrong++;
+        System.out.println(what);
+    }
+
+    static int wrongSoFar() {
+        return wrong;
+    }
+
+    static int lookedSoFar() {
+        return looked;
     }
 
     static String textOf(BinaryText x) {
         StringBuilder text = new StringBuilder();
-        for (int k = 0; k < 1000 && x.characterAt(k) >= 0; k++) {
-            text.append((char) x.characterAt(k));
+        int code = x.characterAt(0);
+        for (int k = 1; k < 100 && code >= 0; k++) {
+            text.append((char) code);
+            code = x.characterAt(k);
         }
         return text.toString();
     }
@@ -30,10 +44,44 @@ final class Check {
 
     static void same(String call, BinaryText x, int length, Model model) {
         printed(call, x, length, model.text);
-        due(call + ", kind()", x.kind(), model.kind);
-        due(call + ", minus()", x.minus(), model.minus);
-        due(call + ", digits()", x.digits(), model.digits);
-        due(call + ", tens()", x.tens(), model.tens);
+        tells(call, x, model.kind, model.minus);
+        decimal(call, x, model.digits, model.tens);
+    }
+
+    static void wide(BinaryText x, long bits, String want) {
+        printed("wide(0x" + Long.toHexString(bits) + ")", x, x.wide(bits), want);
+    }
+
+    static void narrow(BinaryText x, int bits, String want) {
+        printed("narrow(0x" + Integer.toHexString(bits) + ")", x, x.narrow(bits), want);
+    }
+
+    static void wideHex(BinaryText x, long bits, String want) {
+        printed("wideHex(0x" + Long.toHexString(bits) + ")", x, x.wideHex(bits), want);
+    }
+
+    static void narrowHex(BinaryText x, int bits, String want) {
+        printed("narrowHex(0x" + Integer.toHexString(bits) + ")", x, x.narrowHex(bits), want);
+    }
+
+    static void tells(String where, BinaryText x, int kind, boolean minus) {
+        due(where + ", kind()", x.kind(), kind);
+        due(where + ", minus()", x.minus(), minus);
+    }
+
+    static void decimal(String where, BinaryText x, long digits, int tens) {
+        due(where + ", digits()", x.digits(), digits);
+        due(where + ", tens()", x.tens(), tens);
+    }
+
+    static void nothingIsPrinted(String where, BinaryText x) {
+        due(where + ", the text", textOf(x), "");
+        tells(where, x, 0, false);
+        decimal(where, x, 0, 0);
+    }
+
+    static void bounds(BinaryText x, int low, int high, boolean want) {
+        due("bounds(" + low + ", " + high + ")", x.bounds(low, high), want);
     }
 
     static void end() {

@@ -24,13 +24,13 @@ public final class Promise01NewObjectTest {
 
     private static void wide(double number, String want) {
         BinaryText x = new BinaryText();
-        Check.printed("wide of " + number, x, x.wide(Double.doubleToRawLongBits(number)), want);
+        Check.printed("wide of " + number, x, x.wide(Bits.of(number)), want);
     }
 
     private static void objectsAreApart() {
         BinaryText first = new BinaryText();
         first.bounds(0, 30);
-        first.wide(Double.doubleToRawLongBits(-1.5));
+        first.wide(Bits.of(-1.5));
         nothingIsPrinted(new BinaryText());
         firstBounds();
         Check.due("the first text", Check.textOf(first), "-1.5");

@@ -24,7 +24,7 @@ public final class Promise02BoundsTest {
                 String call = "bounds(" + low + ", " + high + ")";
                 Check.due(call, x.bounds(low, high), model.bounds(low, high));
                 for (String number : NUMBERS) {
-                    long bits = Double.doubleToRawLongBits(Double.parseDouble(number));
+                    long bits = Bits.of(Double.parseDouble(number));
                     model.wide(bits);
                     Check.same(call + ", wide of " + number, x, x.wide(bits), model);
                 }
@@ -67,6 +67,6 @@ public final class Promise02BoundsTest {
     }
 
     private static void wide(BinaryText x, double number, String want) {
-        Check.printed("wide of " + number, x, x.wide(Double.doubleToRawLongBits(number)), want);
+        Check.printed("wide of " + number, x, x.wide(Bits.of(number)), want);
     }
 }

@@ -1,7 +1,5 @@
 /** Promise 3: the decimal text of WIDE numbers. */
 public final class Promise03WideTest {
-    private static final BinaryText X = new BinaryText();
-
     public static void main(String[] args) {
         named();
         edges();
@@ -30,40 +28,38 @@ public final class Promise03WideTest {
         wide(0x000FFFFFFFFFFFFFL, "2.225073858507201E-308");
         wide(0x0010000000000000L, "2.2250738585072014E-308");
         wide(0x7FEFFFFFFFFFFFFFL, "1.7976931348623157E308");
-        wide(Double.doubleToRawLongBits(0.1), "0.1");
-        wide(Double.doubleToRawLongBits(0.1 + 0.2), "0.30000000000000004");
-        wide(Double.doubleToRawLongBits(1.0), "1.0");
-        wide(Double.doubleToRawLongBits(-100.25), "-100.25");
-        wide(Double.doubleToRawLongBits(2.0E-3), "0.002");
-        wide(Double.doubleToRawLongBits(-9.87E-5), "-9.87E-5");
-        wide(Double.doubleToRawLongBits(2.0E22), "2.0E22");
-        wide(Double.doubleToRawLongBits(0x1p-44), "5.684341886080802E-14");
-        wide(Double.doubleToRawLongBits(0x1p53), "9.007199254740992E15");
+        wide(Bits.of(0.1), "0.1");
+        wide(Bits.of(0.1 + 0.2), "0.30000000000000004");
+        wide(Bits.of(1.0), "1.0");
+        wide(Bits.of(-100.25), "-100.25");
+        wide(Bits.of(2.0E-3), "0.002");
+        wide(Bits.of(-9.87E-5), "-9.87E-5");
+        wide(Bits.of(2.0E22), "2.0E22");
+        wide(Bits.of(0x1p-44), "5.684341886080802E-14");
+        wide(Bits.of(0x1p53), "9.007199254740992E15");
     }
 
     /** Decimals equally near to two numbers, and numbers equally near to two decimals. */
     private static void ties() {
-        long below = Double.doubleToRawLongBits(1.0E23);
+        long below = Bits.of(1.0E23);
         wide(below, "1.0E23");
         wide(below + 1, "1.0000000000000001E23");
-        X.bounds(-3, 30);
-        wide(Double.doubleToRawLongBits(0x1p50 + 0.25), "1125899906842624.2");
-        wide(Double.doubleToRawLongBits(0x1p50 + 0.75), "1125899906842624.8");
-        X.bounds(-3, 7);
+        wide(Bits.of(0x1p50 + 0.25), "1.1258999068426242E15");
+        wide(Bits.of(0x1p50 + 0.75), "1.1258999068426248E15");
     }
 
     private static void againstTheModel() {
         Model model = new Model();
-        BinaryText x = new BinaryText();
         for (long bits : Samples.wide(5000)) {
+            BinaryText x = new BinaryText();
             model.wide(bits);
-            Check.printed("wide(" + bits + ")", x, x.wide(bits), model.text);
+            Check.wide(x, bits, model.text);
             double number = Double.longBitsToDouble(bits);
             Check.due("the text read back", Double.parseDouble(Check.textOf(x)), number);
         }
     }
 
     private static void wide(long bits, String want) {
-        Check.printed("wide(" + bits + ")", X, X.wide(bits), want);
+        Check.wide(new BinaryText(), bits, want);
     }
 }

@@ -1,7 +1,5 @@
 /** Promise 4: the decimal text of NARROW numbers. */
 public final class Promise04NarrowTest {
-    private static final BinaryText X = new BinaryText();
-
     public static void main(String[] args) {
         named();
         edges();
@@ -28,32 +26,32 @@ public final class Promise04NarrowTest {
         narrow(0x007FFFFF, "1.1754942E-38");
         narrow(0x00800000, "1.1754944E-38");
         narrow(0x7F7FFFFF, "3.4028235E38");
-        narrow(Float.floatToRawIntBits(0.1f), "0.1");
-        narrow(Float.floatToRawIntBits(1.0f), "1.0");
-        narrow(Float.floatToRawIntBits(-16777216f), "-1.6777216E7");
-        narrow(Float.floatToRawIntBits(3.1415927f), "3.1415927");
-        narrow(Float.floatToRawIntBits(1.0E10f), "1.0E10");
-        narrow(Float.floatToRawIntBits(0.001f), "0.001");
-        narrow(Float.floatToRawIntBits(-9.87E-5f), "-9.87E-5");
+        narrow(Bits.of(0.1f), "0.1");
+        narrow(Bits.of(1.0f), "1.0");
+        narrow(Bits.of(-16777216f), "-1.6777216E7");
+        narrow(Bits.of(3.1415927f), "3.1415927");
+        narrow(Bits.of(1.0E10f), "1.0E10");
+        narrow(Bits.of(0.001f), "0.001");
+        narrow(Bits.of(-9.87E-5f), "-9.87E-5");
     }
 
     private static void ties() {
-        narrow(Float.floatToRawIntBits(2097152.25f), "2097152.2");
-        narrow(Float.floatToRawIntBits(2097152.75f), "2097152.8");
+        narrow(Bits.of(2097152.25f), "2097152.2");
+        narrow(Bits.of(2097152.75f), "2097152.8");
     }
 
     private static void againstTheModel() {
         Model model = new Model();
-        BinaryText x = new BinaryText();
         for (int bits : Samples.narrow(5000)) {
+            BinaryText x = new BinaryText();
             model.narrow(bits);
-            Check.printed("narrow(" + bits + ")", x, x.narrow(bits), model.text);
+            Check.narrow(x, bits, model.text);
             float number = Float.intBitsToFloat(bits);
             Check.due("the text read back", Float.parseFloat(Check.textOf(x)), number);
         }
     }
 
     private static void narrow(int bits, String want) {
-        Check.printed("narrow(" + bits + ")", X, X.narrow(bits), want);
+        Check.narrow(new BinaryText(), bits, want);
     }
 }

@@ -1,7 +1,5 @@
 /** Promise 5: the hexadecimal text of WIDE numbers. */
 public final class Promise05WideHexTest {
-    private static final BinaryText X = new BinaryText();
-
     public static void main(String[] args) {
         wideHex(0L, "0x0.0p0");
         wideHex(1L << 63, "-0x0.0p0");
@@ -25,15 +23,15 @@ public final class Promise05WideHexTest {
 
     private static void againstTheModel() {
         Model model = new Model();
-        BinaryText x = new BinaryText();
-        x.bounds(-30, 30);
         for (long bits : Samples.wide(2000)) {
+            BinaryText x = new BinaryText();
+            x.bounds(-30, 30);
             model.wideHex(bits);
-            Check.printed("wideHex(" + bits + ")", x, x.wideHex(bits), model.text);
+            Check.wideHex(x, bits, model.text);
         }
     }
 
     private static void wideHex(long bits, String want) {
-        Check.printed("wideHex(" + bits + ")", X, X.wideHex(bits), want);
+        Check.wideHex(new BinaryText(), bits, want);
     }
 }

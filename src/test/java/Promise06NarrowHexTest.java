@@ -1,7 +1,5 @@
 /** Promise 6: the hexadecimal text of NARROW numbers. */
 public final class Promise06NarrowHexTest {
-    private static final BinaryText X = new BinaryText();
-
     public static void main(String[] args) {
         narrowHex(0, "0x0.0p0");
         narrowHex(1 << 31, "-0x0.0p0");
@@ -24,15 +22,15 @@ public final class Promise06NarrowHexTest {
 
     private static void againstTheModel() {
         Model model = new Model();
-        BinaryText x = new BinaryText();
-        x.bounds(-30, 30);
         for (int bits : Samples.narrow(2000)) {
+            BinaryText x = new BinaryText();
+            x.bounds(-30, 30);
             model.narrowHex(bits);
-            Check.printed("narrowHex(" + bits + ")", x, x.narrowHex(bits), model.text);
+            Check.narrowHex(x, bits, model.text);
         }
     }
 
     private static void narrowHex(int bits, String want) {
-        Check.printed("narrowHex(" + bits + ")", X, X.narrowHex(bits), want);
+        Check.narrowHex(new BinaryText(), bits, want);
     }
 }

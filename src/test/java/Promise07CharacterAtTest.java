@@ -6,16 +6,16 @@ public final class Promise07CharacterAtTest {
     public static void main(String[] args) {
         BinaryText x = new BinaryText();
         every(x, "");
-        x.wide(Double.doubleToRawLongBits(-1234.5678));
+        x.wide(Bits.of(-1234.5678));
         every(x, "-1234.5678");
-        x.narrow(Float.floatToRawIntBits(2.5f));
+        x.narrow(Bits.of(2.5f));
         every(x, "2.5");
-        x.wideHex(Double.doubleToRawLongBits(-0.1));
+        x.wideHex(Bits.of(-0.1));
         every(x, "-0x1.999999999999ap-4");
         x.narrowHex(-1);
         every(x, "NaN");
         x.bounds(-30, 30);
-        x.wide(Double.doubleToRawLongBits(-1.2345678901234567E-30));
+        x.wide(Bits.of(-1.2345678901234567E-30));
         every(x, "-0.0000000000000000000000000000012345678901234567");
         x.wide(0);
         every(x, "0.0");

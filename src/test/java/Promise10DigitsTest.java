@@ -22,15 +22,15 @@ public final class Promise10DigitsTest {
         narrow(x, Float.NaN, 0L);
         narrow(x, 1.6777216E7f, 16777216L);
         narrow(x, 0f, 0L);
-        x.wide(Double.doubleToRawLongBits(12.5));
+        x.wide(Bits.of(12.5));
         x.bounds(0, 1);
         Check.due("digits() behind bounds", x.digits(), 125L);
-        againstTheModel(x);
+        againstTheModel();
         Check.end();
     }
 
     private static void wide(BinaryText x, double number, long d) {
-        long bits = Double.doubleToRawLongBits(number);
+        long bits = Bits.of(number);
         x.wide(bits);
         Check.due("digits() behind wide of " + number, x.digits(), d);
         x.narrow(0);
@@ -39,7 +39,7 @@ public final class Promise10DigitsTest {
     }
 
     private static void narrow(BinaryText x, float number, long d) {
-        int bits = Float.floatToRawIntBits(number);
+        int bits = Bits.of(number);
         x.narrow(bits);
         Check.due("digits() behind narrow of " + number, x.digits(), d);
         x.wide(0);
@@ -47,14 +47,16 @@ public final class Promise10DigitsTest {
         Check.due("digits() behind narrowHex of " + number, x.digits(), d);
     }
 
-    private static void againstTheModel(BinaryText x) {
+    private static void againstTheModel() {
         Model model = new Model();
         for (long bits : Samples.wide(1000)) {
+            BinaryText x = new BinaryText();
             model.wideHex(bits);
             x.wideHex(bits);
             Check.due("digits() behind wideHex(" + bits + ")", x.digits(), model.digits);
         }
         for (int bits : Samples.narrow(1000)) {
+            BinaryText x = new BinaryText();
             model.narrowHex(bits);
             x.narrowHex(bits);
             Check.due("digits() behind narrowHex(" + bits + ")", x.digits(), model.digits);

@@ -22,15 +22,15 @@ public final class Promise11TensTest {
         narrow(x, Float.NaN, 0);
         narrow(x, 1.0E10f, 10);
         narrow(x, 0f, 0);
-        x.wide(Double.doubleToRawLongBits(12.5));
+        x.wide(Bits.of(12.5));
         x.bounds(0, 1);
         Check.due("tens() behind bounds", x.tens(), -1);
-        againstTheModel(x);
+        againstTheModel();
         Check.end();
     }
 
     private static void wide(BinaryText x, double number, int t) {
-        long bits = Double.doubleToRawLongBits(number);
+        long bits = Bits.of(number);
         x.wide(bits);
         Check.due("tens() behind wide of " + number, x.tens(), t);
         x.narrow(0);
@@ -39,7 +39,7 @@ public final class Promise11TensTest {
     }
 
     private static void narrow(BinaryText x, float number, int t) {
-        int bits = Float.floatToRawIntBits(number);
+        int bits = Bits.of(number);
         x.narrow(bits);
         Check.due("tens() behind narrow of " + number, x.tens(), t);
         x.wide(0);
@@ -47,14 +47,16 @@ public final class Promise11TensTest {
         Check.due("tens() behind narrowHex of " + number, x.tens(), t);
     }
 
-    private static void againstTheModel(BinaryText x) {
+    private static void againstTheModel() {
         Model model = new Model();
         for (long bits : Samples.wide(1000)) {
+            BinaryText x = new BinaryText();
             model.wideHex(bits);
             x.wideHex(bits);
             Check.due("tens() behind wideHex(" + bits + ")", x.tens(), model.tens);
         }
         for (int bits : Samples.narrow(1000)) {
+            BinaryText x = new BinaryText();
             model.narrowHex(bits);
             x.narrowHex(bits);
             Check.due("tens() behind narrowHex(" + bits + ")", x.tens(), model.tens);
