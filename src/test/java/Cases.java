@@ -41,6 +41,7 @@ final class Cases {
             Check.wrong("looked at no answer");
         }
         String verdict = Check.wrongSoFar() == wrongBefore ? "ok     " : "FAILED ";
-        System.out.println(verdict + method.getName());
+        String promise = method.getDeclaringClass().getSimpleName().replace("EdgesTest", "");
+        System.out.println(verdict + promise + ": " + method.getName());
     }
 }
