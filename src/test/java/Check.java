@@ -80,6 +80,23 @@ final class Check {
         decimal(where, x, 0, 0);
     }
 
+    /** Bounds and a print that a question must leave as they are. */
+    static BinaryText askedObject() {
+        BinaryText x = new BinaryText();
+        x.bounds(-5, 2);
+        x.wide(Bits.of(-62.5));
+        return x;
+    }
+
+    static void isAsBeforeItWasAsked(String question, BinaryText x) {
+        String where = "behind " + question;
+        due(where + ", the text", textOf(x), "-62.5");
+        tells(where, x, 4, true);
+        decimal(where, x, 625L, -1);
+        printed(where + ", wide(1.0E-5)", x, x.wide(Bits.of(1.0E-5)), "0.00001");
+        printed(where + ", wide(100.0)", x, x.wide(Bits.of(100.0)), "1.0E2");
+    }
+
     static void bounds(BinaryText x, int low, int high, boolean want) {
         due("bounds(" + low + ", " + high + ")", x.bounds(low, high), want);
     }

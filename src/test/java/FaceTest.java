@@ -9,6 +9,14 @@ public final class FaceTest {
     public static void main(String[] args) {
         Class<?> face = BinaryText.class;
         Check.due("the class's modifiers", Modifier.toString(face.getModifiers()), "public final");
+        Check.due("the class above", face.getSuperclass(), Object.class);
+        Check.due("the interfaces", face.getInterfaces().length, 0);
+        members(face);
+        classesInside(face);
+        Check.end();
+    }
+
+    private static void members(Class<?> face) {
         TreeSet<String> seen = new TreeSet<>();
         for (Constructor<?> c : face.getDeclaredConstructors()) {
             seen.add(c.toString());
@@ -36,6 +44,13 @@ public final class FaceTest {
         want.add("public long digits()");
         want.add("public int tens()");
         Check.due("the members", seen, want);
-        Check.end();
+    }
+
+    private static void classesInside(Class<?> face) {
+        for (Class<?> inside : face.getDeclaredClasses()) {
+            int modifiers = inside.getModifiers();
+            boolean hidden = !Modifier.isPublic(modifiers) && !Modifier.isProtected(modifiers);
+            Check.due(inside + " is static and hidden", Modifier.isStatic(modifiers) && hidden, true);
+        }
     }
 }

@@ -144,6 +144,23 @@ public final class Promise02BoundsEdgesTest {
         }
     }
 
+    static void noPrintChangesThem() {
+        long[] wide = {Bits.WIDE_NO_NUMBER, Bits.WIDE_INFINITE, 0L, Bits.WIDE_GREATEST};
+        int[] narrow = {Bits.NARROW_NO_NUMBER, Bits.NARROW_INFINITE, 0, Bits.NARROW_GREATEST};
+        for (int kind = 0; kind < wide.length; kind++) {
+            BinaryText x = new BinaryText();
+            Check.bounds(x, -5, 2, true);
+            x.wide(wide[kind]);
+            thoseOfMinus5And2(x);
+            x.wideHex(wide[kind]);
+            thoseOfMinus5And2(x);
+            x.narrow(narrow[kind]);
+            thoseOfMinus5And2(x);
+            x.narrowHex(narrow[kind]);
+            thoseOfMinus5And2(x);
+        }
+    }
+
     /** Either bound that was set before stays, also where the other one alone is wrong. */
     private static void refused(int low, int high) {
         BinaryText x = new BinaryText();
@@ -161,6 +178,13 @@ public final class Promise02BoundsEdgesTest {
         Check.wide(x, Bits.of(9.0E-4), "9.0E-4");
         Check.wide(x, Bits.of(9.0E6), "9000000.0");
         Check.wide(x, Bits.of(1.0E7), "1.0E7");
+    }
+
+    private static void thoseOfMinus5And2(BinaryText x) {
+        Check.wide(x, Bits.of(1.0E-5), "0.00001");
+        Check.wide(x, Bits.of(9.0E-6), "9.0E-6");
+        Check.wide(x, Bits.of(99.5), "99.5");
+        Check.wide(x, Bits.of(100.0), "1.0E2");
     }
 
     private static void minus1234And5(BinaryText x) {

@@ -68,14 +68,13 @@ public final class Promise07CharacterAtEdgesTest {
     }
 
     static void askingChangesNothing() {
-        BinaryText x = printed(Bits.of(-1.5));
-        none(x, 4);
+        BinaryText x = Check.askedObject();
+        none(x, 5);
         one(x, 0, '-');
         none(x, -1);
         one(x, 0, '-');
-        one(x, 3, '5');
-        Check.tells("behind characterAt", x, 4, true);
-        Check.decimal("behind characterAt", x, 15L, -1);
+        one(x, 4, '5');
+        Check.isAsBeforeItWasAsked("characterAt", x);
     }
 
     static void codesOfEveryCharacterThatOccurs() {

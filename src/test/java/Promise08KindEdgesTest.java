@@ -86,6 +86,13 @@ public final class Promise08KindEdgesTest {
         Check.due("kind() behind bounds that are refused", x.kind(), 2);
     }
 
+    static void askingChangesNothing() {
+        BinaryText x = Check.askedObject();
+        Check.due("kind()", x.kind(), 4);
+        Check.due("kind() again", x.kind(), 4);
+        Check.isAsBeforeItWasAsked("kind()", x);
+    }
+
     private static void wide(long bits, int want) {
         BinaryText x = new BinaryText();
         x.wide(bits);

@@ -69,6 +69,13 @@ public final class Promise09MinusEdgesTest {
         Check.due("minus() behind bounds that are refused", x.minus(), true);
     }
 
+    static void askingChangesNothing() {
+        BinaryText x = Check.askedObject();
+        Check.due("minus()", x.minus(), true);
+        Check.due("minus() again", x.minus(), true);
+        Check.isAsBeforeItWasAsked("minus()", x);
+    }
+
     private static void bothSigns(long wide, int narrow) {
         oneSign(wide, narrow, false);
         oneSign(wide | Bits.WIDE_SIGN, narrow | Bits.NARROW_SIGN, true);

@@ -83,6 +83,13 @@ public final class Promise10DigitsEdgesTest {
         due("the text with an exponent", x, 12345L);
     }
 
+    static void askingChangesNothing() {
+        BinaryText x = Check.askedObject();
+        Check.due("digits()", x.digits(), 625L);
+        Check.due("digits() again", x.digits(), 625L);
+        Check.isAsBeforeItWasAsked("digits()", x);
+    }
+
     private static void all(long wide, int narrow, long ofWide, long ofNarrow) {
         BinaryText x = new BinaryText();
         x.wide(wide);

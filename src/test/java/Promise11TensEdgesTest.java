@@ -85,6 +85,13 @@ public final class Promise11TensEdgesTest {
         due("the text with an exponent", x, -1);
     }
 
+    static void askingChangesNothing() {
+        BinaryText x = Check.askedObject();
+        Check.due("tens()", x.tens(), -1);
+        Check.due("tens() again", x.tens(), -1);
+        Check.isAsBeforeItWasAsked("tens()", x);
+    }
+
     private static void all(long wide, int narrow, int ofWide, int ofNarrow) {
         BinaryText x = new BinaryText();
         x.wide(wide);
